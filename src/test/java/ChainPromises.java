@@ -48,8 +48,10 @@ public final class ChainPromises {
         tapeIsFull();
         empty();
         reset();
+        resetForgetsAll();
         through();
         ways();
+        waysNearAHalf();
         held();
         told();
         toldStays();
@@ -307,6 +309,27 @@ public final class ChainPromises {
         due("P17 and it goes on", x.put(5), 0);
     }
 
+    /** More samples than a ring has words, so that none of those words may stay. */
+    private static void resetForgetsAll() {
+        int[] taps = new int[32];
+        java.util.Arrays.fill(taps, 1);
+        FirChain x = withStage(1, 1, 0, taps);
+        x.join(0);
+        x.ramp(100, 1, 45);
+        x.reset();
+        due("P17 all of it is forgotten", x.through(0, 5), 5);
+        x.ramp(100, 1, 45);
+        x.planAt(0, 16, 50, 0);
+        due("P7 all of it is forgotten", x.through(0, 6), 6);
+        x.part();
+        x.ramp(1, 1, 3);
+        due("P17 what came in past the chain", x.through(0, 1), 7);
+        for (int i = 0; i < 31; i++) {
+            x.through(0, 0);
+        }
+        due("P18 32 samples ahead is too far", x.through(0, 2), 2);
+    }
+
     private static void through() {
         FirChain x = new FirChain();
         due("P18 of no stage", x.through(0, 1), BAD_NUMBER);
@@ -360,6 +383,20 @@ public final class ChainPromises {
                 due(name + " by 4", x.through(0, samples[i]), due[way][i]);
                 due(name + " with shift 0", whole.through(0, samples[i]), samples[i]);
             }
+        }
+    }
+
+    /** Eighths of either side of a half: nearest is not the same as beyond a third. */
+    private static void waysNearAHalf() {
+        int[] samples = {3, 4, 5, 11, 12, 13, -3, -4, -5, -11, -12, -13};
+        int[] halfUp = {0, 1, 1, 1, 2, 2, 0, 0, -1, -1, -1, -2};
+        int[] halfEven = {0, 0, 1, 1, 2, 2, 0, 0, -1, -1, -2, -2};
+        FirChain x = withStage(8, 1, 3, 1);
+        for (int i = 0; i < samples.length; i++) {
+            x.way(0, 2, false);
+            due("P18 half up, " + samples[i] + " by 8", x.through(0, samples[i]), halfUp[i]);
+            x.way(0, 3, false);
+            due("P18 half to even, " + samples[i] + " by 8", x.through(0, samples[i]), halfEven[i]);
         }
     }
 
@@ -464,6 +501,15 @@ public final class ChainPromises {
         far.through(0, -32768);
         far.through(0, 32767);
         due("P20 sizes, not signs", far.near(0), 1);
+        // the coefficient is 2 for 3 halves, the sum a half: 5 eighths away, just the bound
+        FirChain just = withStage(8, 1, 2, 3);
+        just.way(0, 2, false);
+        due("P20 rounded up", just.through(0, 1), 1);
+        due("P20 at the bound itself", just.near(0), 1);
+        FirChain none = new FirChain();
+        none.stage(1, 1);
+        due("P20 never planned", none.near(0), FirChain.NO);
+        due("P19 never planned", none.told(0, 4), 0);
     }
 
     private static void nearAsItWasRounded() {
