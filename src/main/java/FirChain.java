@@ -24,8 +24,7 @@ public final class FirChain {
     private final int[] chain;
     private int chainLength;
     private final Tape tape;
-    /** What one sample has become on its way: join() sees to it that 16 is room enough. */
-    private final int[] firstRow, secondRow;
+    private final Row firstRow, secondRow;
 
     public FirChain() {
         stages = new Stage[MOST_STAGES];
@@ -33,8 +32,8 @@ public final class FirChain {
         chain = new int[MOST_STAGES];
         chainLength = 0;
         tape = new Tape();
-        firstRow = new int[MOST_FILLED];
-        secondRow = new int[MOST_FILLED];
+        firstRow = new Row();
+        secondRow = new Row();
     }
 
     // ---- stages
@@ -356,23 +355,23 @@ public final class FirChain {
 
     /** Takes a sample along the whole chain: how many came to the tape. */
     private int send(int sample) {
-        int[] from = firstRow;
-        int[] to = secondRow;
-        from[0] = sample;
-        int length = 1;
+        Row from = firstRow;
+        Row to = secondRow;
+        from.clear();
+        from.add(sample);
         for (int place = 0; place < chainLength && place < chain.length; place++) {
             Stage found = find(chain[place]);
             if (found != null) {
-                length = found.pass(from, length, to);
-                int[] spare = from;
+                found.pass(from, to);
+                Row spare = from;
                 from = to;
                 to = spare;
             }
         }
-        for (int i = 0; i < length && i < from.length; i++) {
-            tape.add(from[i]);
+        for (int i = 0; i < from.length; i++) {
+            tape.add(from.at(i));
         }
-        return length;
+        return from.length;
     }
 
     /** One filter: its taps, its plan, and what has come in since it got that. */
@@ -479,20 +478,19 @@ public final class FirChain {
             greatestSum = 0;
         }
 
-        /** Takes the samples of one row; what comes out is written to another: how many. */
-        int pass(int[] from, int length, int[] to) {
-            int made = 0;
+        /** Takes the samples of one row; what comes out becomes the other. */
+        void pass(Row from, Row to) {
+            to.clear();
             int each = filling();
-            for (int i = 0; i < length && i < from.length; i++) {
+            int length = from.length;
+            for (int i = 0; i < length; i++) {
                 for (int j = 0; j < each; j++) {
-                    int output = take(j == 0 ? from[i] : 0);
-                    if (comesOut() && made < to.length) {
-                        to[made] = output;
-                        made++;
+                    int output = take(j == 0 ? from.at(i) : 0);
+                    if (comesOut()) {
+                        to.add(output);
                     }
                 }
             }
-            return made;
         }
 
         private boolean comesOut() {
@@ -674,12 +672,15 @@ public final class FirChain {
 
         void push(int sample) {
             head = (head - 1) & MASK;
-            words[head] = (short) sample;
+            if (head < words.length) {
+                words[head] = (short) sample;
+            }
         }
 
         /** The sample that came in k samples ahead of the latest one. */
         int back(int k) {
-            return words[(head + k) & MASK];
+            int at = (head + k) & MASK;
+            return at < words.length ? words[at] : 0;
         }
 
         void clear() {
@@ -687,6 +688,32 @@ public final class FirChain {
                 words[i] = 0;
             }
             head = 0;
+        }
+    }
+
+    /** What one sample has become on its way: join() sees to it that 16 is room enough. */
+    private static final class Row {
+        private final int[] samples;
+        int length;
+
+        Row() {
+            samples = new int[MOST_FILLED];
+            length = 0;
+        }
+
+        void clear() {
+            length = 0;
+        }
+
+        void add(int sample) {
+            if (length >= 0 && length < samples.length) {
+                samples[length] = sample;
+                length++;
+            }
+        }
+
+        int at(int i) {
+            return i >= 0 && i < length && i < samples.length ? samples[i] : 0;
         }
     }
 

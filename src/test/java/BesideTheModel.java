@@ -7,8 +7,10 @@ import java.util.List;
  * and reckons in BigInteger. The runs are drawn by a fixed rule: they are always the same.
  */
 public final class BesideTheModel {
-    private static final int RUNS = 3000;
-    private static final int CALLS = 160;
+    private static final int RUNS = 10000;
+    /** What later calls of one object answer is free. */
+    private static final int MOST_CALLS = 512;
+    private static final int CALLS_OF_ONE_LOOK = 42;
     private static int wrong = 0;
 
     public static void main(String[] args) {
@@ -267,6 +269,7 @@ public final class BesideTheModel {
     private static final class Run {
         private final int number;
         private long state;
+        private int calls = 0;
         private final FirChain x = new FirChain();
         private final Model m = new Model();
 
@@ -327,6 +330,7 @@ public final class BesideTheModel {
         }
 
         private void due(String call, long got, long want) {
+            calls++;
             if (got != want) {
                 wrong++;
                 System.out.println("run " + number + ": " + call + " answered " + got + ", the model " + want);
@@ -346,7 +350,7 @@ public final class BesideTheModel {
                     join(i);
                 }
             }
-            for (int call = 0; call < CALLS; call++) {
+            while (calls + 2 * CALLS_OF_ONE_LOOK <= MOST_CALLS) {
                 one();
             }
             look();
@@ -367,7 +371,8 @@ public final class BesideTheModel {
                 case 15: if (draw(4) == 0) { empty(); } break;
                 case 16: if (draw(4) == 0) { reset(); } break;
                 case 17: case 18: case 19: through(); break;
-                default: look(); break;
+                case 20: look(); break;
+                default: glance(); break;
             }
         }
 
@@ -513,6 +518,14 @@ public final class BesideTheModel {
                 want = f.coefficients == null || f.by != 1 ? 2000000001 : f.takes(sample);
             }
             due("through(" + s + ", " + sample + ")", x.through(s, sample), want);
+        }
+
+        /** What costs few calls, so that a run has room for many that change something. */
+        private void glance() {
+            int s = someStage();
+            Filter f = m.at(s);
+            due("near(" + s + ")", x.near(s), f == null ? -2 : f.told == null ? -3 : f.toldNear);
+            due("digest()", x.digest(), m.digest());
         }
 
         /** Every question, of which none changes anything. */

@@ -1,41 +1,5 @@
 /** Promises 11 to 23: the chain, the tape, and what is told beside the exact. */
-public final class ChainPromises {
-    private static final int MIN = Integer.MIN_VALUE;
-    private static final int MAX = Integer.MAX_VALUE;
-    private static final int BAD_NUMBER = 2000000000;
-    private static final int NO_NUMBER = 2000000001;
-    private static int wrong = 0;
-
-    private static void due(String call, long got, long want) {
-        if (got != want) {
-            wrong++;
-            System.out.println(call + " answered " + got + ", due is " + want);
-        }
-    }
-
-    /** A stage with these taps, planned by 16 bits, a word of 50 and this shift. */
-    private static int addStage(FirChain x, int below, int by, int shift, int... taps) {
-        int number = x.stage(below, by);
-        for (int t : taps) {
-            x.tap(number, t);
-        }
-        due("set up", x.planAt(number, 16, 50, shift), shift);
-        return number;
-    }
-
-    private static FirChain withStage(int below, int by, int shift, int... taps) {
-        FirChain x = new FirChain();
-        addStage(x, below, by, shift, taps);
-        return x;
-    }
-
-    private static void dueOnTape(String name, FirChain x, int... samples) {
-        due(name + ": how many", x.count(2), samples.length);
-        for (int i = 0; i < samples.length; i++) {
-            due(name + ": out(" + i + ")", x.out(i), samples[i]);
-        }
-    }
-
+public final class ChainPromises extends Checks {
     public static void main(String[] args) {
         join();
         joinOfThoseThatFill();
@@ -60,10 +24,7 @@ public final class ChainPromises {
         counted();
         count();
         digest();
-        System.out.println(wrong == 0 ? "promises 11 to 23 hold" : wrong + " answers are not as due");
-        if (wrong != 0) {
-            System.exit(1);
-        }
+        end("promises 11 to 23");
     }
 
     private static void join() {
@@ -75,7 +36,7 @@ public final class ChainPromises {
         due("P11 still no plan", x.join(0), FirChain.NO);
         x.plan(0, 8, 30);
         for (int i = 1; i < 8; i++) {
-            addStage(x, 1, 1, 0, 1);
+            addPlanned(x, 1, 1, 0, 1);
         }
         int[] wrongStage = {-1, 8, MIN, MAX};
         for (int number : wrongStage) {
@@ -94,11 +55,11 @@ public final class ChainPromises {
 
     private static void joinOfThoseThatFill() {
         FirChain x = new FirChain();
-        int four = addStage(x, 1, -4, 0, 1);
-        int otherFour = addStage(x, 1, -4, 0, 1);
-        int two = addStage(x, 1, -2, 0, 1);
-        int thin = addStage(x, 1, 4, 0, 1);
-        int three = addStage(x, 1, -3, 0, 1);
+        int four = addPlanned(x, 1, -4, 0, 1);
+        int otherFour = addPlanned(x, 1, -4, 0, 1);
+        int two = addPlanned(x, 1, -2, 0, 1);
+        int thin = addPlanned(x, 1, 4, 0, 1);
+        int three = addPlanned(x, 1, -3, 0, 1);
         due("P11 4", x.join(four), 0);
         due("P11 thinning makes no room", x.join(thin), 1);
         due("P11 16", x.join(otherFour), 2);
@@ -119,8 +80,8 @@ public final class ChainPromises {
     private static void part() {
         FirChain x = new FirChain();
         due("P12 empty", x.part(), 0);
-        addStage(x, 1, 1, 0, 2, 3);
-        addStage(x, 1, 1, 0, 1);
+        addPlanned(x, 1, 1, 0, 2, 3);
+        addPlanned(x, 1, 1, 0, 1);
         x.join(0);
         x.join(1);
         x.put(10);
@@ -148,8 +109,8 @@ public final class ChainPromises {
         dueOnTape("P13 no stage", x, -32768, 32767);
 
         FirChain y = new FirChain();
-        addStage(y, 1, 1, 0, 2, -1, 3);
-        addStage(y, 1, 1, 0, 1, 10);
+        addPlanned(y, 1, 1, 0, 2, -1, 3);
+        addPlanned(y, 1, 1, 0, 1, 10);
         y.join(1);
         y.join(0);
         int[] samples = {1, 0, 0, 0, 5};
@@ -163,7 +124,7 @@ public final class ChainPromises {
 
     private static void putThins() {
         for (int by = 2; by <= 4; by++) {
-            FirChain x = withStage(1, by, 0, 1, 1);
+            FirChain x = withPlan(1, by, 0, 1, 1);
             x.join(0);
             int came = 0;
             for (int i = 0; i < 9; i++) {
@@ -181,7 +142,7 @@ public final class ChainPromises {
     }
 
     private static void putFills() {
-        FirChain x = withStage(1, -3, 0, 1, 2, 3, 4);
+        FirChain x = withPlan(1, -3, 0, 1, 2, 3, 4);
         x.join(0);
         due("P13 fills by 3", x.put(10), 3);
         due("P13 fills by 3", x.put(100), 3);
@@ -189,9 +150,9 @@ public final class ChainPromises {
         due("P13 those filled in count", x.counted(0, 0), 6);
 
         FirChain y = new FirChain();
-        addStage(y, 1, -4, 0, 1, 1, 1, 1);
-        addStage(y, 1, -4, 0, 1, 2, 3, 4);
-        addStage(y, 1, 3, 0, 1);
+        addPlanned(y, 1, -4, 0, 1, 1, 1, 1);
+        addPlanned(y, 1, -4, 0, 1, 2, 3, 4);
+        addPlanned(y, 1, 3, 0, 1);
         y.join(0);
         y.join(1);
         due("P13 16 at once", y.put(1), 16);
@@ -230,8 +191,8 @@ public final class ChainPromises {
         due("P14 the last one", x.out(81), 63);
 
         FirChain y = new FirChain();
-        addStage(y, 1, -2, 0, 1);
-        addStage(y, 1, 3, 0, 1);
+        addPlanned(y, 1, -2, 0, 1);
+        addPlanned(y, 1, 3, 0, 1);
         y.join(0);
         y.join(1);
         due("P14 filled and thinned", y.ramp(1, 1, 6), 4);
@@ -273,7 +234,7 @@ public final class ChainPromises {
     }
 
     private static void empty() {
-        FirChain x = withStage(1, 1, 0, 1, 1);
+        FirChain x = withPlan(1, 1, 0, 1, 1);
         due("P16 nothing", x.empty(), 0);
         x.join(0);
         x.put(3);
@@ -288,8 +249,8 @@ public final class ChainPromises {
 
     private static void reset() {
         FirChain x = new FirChain();
-        addStage(x, 1, 1, 0, 1, 1);
-        addStage(x, 1, 3, 0, 1, 1);
+        addPlanned(x, 1, 1, 0, 1, 1);
+        addPlanned(x, 1, 3, 0, 1, 1);
         x.stage(1, 1);
         x.join(0);
         x.join(1);
@@ -313,7 +274,7 @@ public final class ChainPromises {
     private static void resetForgetsAll() {
         int[] taps = new int[32];
         java.util.Arrays.fill(taps, 1);
-        FirChain x = withStage(1, 1, 0, taps);
+        FirChain x = withPlan(1, 1, 0, taps);
         x.join(0);
         x.ramp(100, 1, 45);
         x.reset();
@@ -333,9 +294,9 @@ public final class ChainPromises {
     private static void through() {
         FirChain x = new FirChain();
         due("P18 of no stage", x.through(0, 1), BAD_NUMBER);
-        addStage(x, 1, 1, 0, 1, 2);
-        addStage(x, 1, 2, 0, 1);
-        addStage(x, 1, -2, 0, 1);
+        addPlanned(x, 1, 1, 0, 1, 2);
+        addPlanned(x, 1, 2, 0, 1);
+        addPlanned(x, 1, -2, 0, 1);
         x.stage(1, 1);
         due("P18 through(0, 10)", x.through(0, 10), 10);
         due("P18 it counts as what came in", x.through(0, 1), 21);
@@ -374,9 +335,9 @@ public final class ChainPromises {
             {0, 0, 0, 1, 1, 1, 2, 2, 0, 0, -1, -1, -1, -2, -2, -2},
         };
         for (int way = 0; way <= 3; way++) {
-            FirChain x = withStage(4, 1, 2, 1);
+            FirChain x = withPlan(4, 1, 2, 1);
             x.way(0, way, false);
-            FirChain whole = withStage(1, 1, 0, 1);
+            FirChain whole = withPlan(1, 1, 0, 1);
             whole.way(0, way, false);
             for (int i = 0; i < samples.length; i++) {
                 String name = "P18 way " + way + ", " + samples[i];
@@ -391,7 +352,7 @@ public final class ChainPromises {
         int[] samples = {3, 4, 5, 11, 12, 13, -3, -4, -5, -11, -12, -13};
         int[] halfUp = {0, 1, 1, 1, 2, 2, 0, 0, -1, -1, -1, -2};
         int[] halfEven = {0, 0, 1, 1, 2, 2, 0, 0, -1, -1, -2, -2};
-        FirChain x = withStage(8, 1, 3, 1);
+        FirChain x = withPlan(8, 1, 3, 1);
         for (int i = 0; i < samples.length; i++) {
             x.way(0, 2, false);
             due("P18 half up, " + samples[i] + " by 8", x.through(0, samples[i]), halfUp[i]);
@@ -401,7 +362,7 @@ public final class ChainPromises {
     }
 
     private static void held() {
-        FirChain x = withStage(1, 1, 0, 2);
+        FirChain x = withPlan(1, 1, 0, 2);
         int[] samples = {16383, 16384, 32767, -16384, -16385, -32768, 0};
         int[] held = {32766, 32767, 32767, -32768, -32768, -32768, 0};
         int[] wrapped = {32766, -32768, -2, -32768, 32766, 0, 0};
@@ -419,14 +380,14 @@ public final class ChainPromises {
             due("P19 output " + samples[i], x.told(0, 2), wrapped[i]);
         }
         due("P21 how many were held or wrapped", x.counted(0, 1), 8);
-        FirChain wide = withStage(1, 1, 0, 32767, 32767);
+        FirChain wide = withPlan(1, 1, 0, 32767, 32767);
         wide.way(0, 0, true);
         wide.through(0, -32768);
         due("P18 wrapped by far", wide.through(0, -32768), (short) (-65534L * 32768));
     }
 
     private static void told() {
-        FirChain x = withStage(3, 1, 4, 1, -2);
+        FirChain x = withPlan(3, 1, 4, 1, -2);
         for (int what = 0; what <= 4; what++) {
             due("P19 none yet, told(0, " + what + ")", x.told(0, what), 0);
         }
@@ -448,7 +409,7 @@ public final class ChainPromises {
         }
         int[] greatest = new int[32];
         java.util.Arrays.fill(greatest, 1000000);
-        FirChain wide = withStage(1000000, 1, 14, greatest);
+        FirChain wide = withPlan(1000000, 1, 14, greatest);
         for (int i = 0; i < 32; i++) {
             wide.through(0, -32768);
         }
@@ -458,7 +419,7 @@ public final class ChainPromises {
     }
 
     private static void toldStays() {
-        FirChain x = withStage(1, 2, 0, 3);
+        FirChain x = withPlan(1, 2, 0, 3);
         x.join(0);
         x.put(5);
         x.put(7);
@@ -474,14 +435,14 @@ public final class ChainPromises {
         x.planAt(0, 16, 50, 1);
         due("P19 after a plan", x.told(0, 0), 0);
         due("P19 after a plan, the greatest size", x.told(0, 4), 0);
-        FirChain fill = withStage(1, -2, 0, 3, 4);
+        FirChain fill = withPlan(1, -2, 0, 3, 4);
         fill.join(0);
         fill.put(5);
         due("P19 of the 0 that was filled in", fill.told(0, 0), 20);
     }
 
     private static void near() {
-        FirChain x = withStage(3, 1, 0, 1);
+        FirChain x = withPlan(3, 1, 0, 1);
         due("P20 none yet", x.near(0), FirChain.NO);
         int[] wrongStage = {-1, 1, MIN, MAX};
         for (int number : wrongStage) {
@@ -494,15 +455,15 @@ public final class ChainPromises {
         due("P20 the samples of then count", x.near(0), 1);
         x.change(0, 0, 1);
         due("P20 the plan is gone", x.near(0), FirChain.NO);
-        FirChain held = withStage(1, 1, 0, 32767);
+        FirChain held = withPlan(1, 1, 0, 32767);
         held.through(0, 32767);
         due("P20 as it was rounded, not as it was held", held.near(0), 1);
-        FirChain far = withStage(1000000, 1, 0, 499999, -499999);
+        FirChain far = withPlan(1000000, 1, 0, 499999, -499999);
         far.through(0, -32768);
         far.through(0, 32767);
         due("P20 sizes, not signs", far.near(0), 1);
         // the coefficient is 2 for 3 halves, the sum a half: 5 eighths away, just the bound
-        FirChain just = withStage(8, 1, 2, 3);
+        FirChain just = withPlan(8, 1, 2, 3);
         just.way(0, 2, false);
         due("P20 rounded up", just.through(0, 1), 1);
         due("P20 at the bound itself", just.near(0), 1);
@@ -513,7 +474,7 @@ public final class ChainPromises {
     }
 
     private static void nearAsItWasRounded() {
-        FirChain x = withStage(16, 1, 4, 15, 0);
+        FirChain x = withPlan(16, 1, 4, 15, 0);
         x.way(0, 0, false);
         x.through(0, 1);
         x.way(0, 2, false);
@@ -532,7 +493,7 @@ public final class ChainPromises {
     }
 
     private static void counted() {
-        FirChain x = withStage(1, 2, 0, 3, -1);
+        FirChain x = withPlan(1, 2, 0, 3, -1);
         for (int what = 0; what <= 2; what++) {
             due("P21 at first, counted(0, " + what + ")", x.counted(0, what), 0);
         }
@@ -564,8 +525,8 @@ public final class ChainPromises {
 
     private static void count() {
         FirChain x = new FirChain();
-        addStage(x, 1, 1, 0, 1);
-        addStage(x, 1, 1, 0, 1);
+        addPlanned(x, 1, 1, 0, 1);
+        addPlanned(x, 1, 1, 0, 1);
         x.stage(1, 1);
         x.join(1);
         x.join(0);

@@ -1,32 +1,5 @@
 /** Promises 1 to 10: a new object, stages, their taps, ways and plans. */
-public final class StagePromises {
-    private static final int MIN = Integer.MIN_VALUE;
-    private static final int MAX = Integer.MAX_VALUE;
-    private static final int BAD_NUMBER = 2000000000;
-    private static int wrong = 0;
-
-    private static void due(String call, long got, long want) {
-        if (got != want) {
-            wrong++;
-            System.out.println(call + " answered " + got + ", due is " + want);
-        }
-    }
-
-    /** A new object with one stage that has these taps. */
-    private static FirChain withTaps(int below, int by, int... taps) {
-        FirChain x = new FirChain();
-        addStage(x, below, by, taps);
-        return x;
-    }
-
-    private static int addStage(FirChain x, int below, int by, int... taps) {
-        int number = x.stage(below, by);
-        for (int t : taps) {
-            x.tap(number, t);
-        }
-        return number;
-    }
-
+public final class StagePromises extends Checks {
     public static void main(String[] args) {
         newObject();
         stage();
@@ -45,10 +18,7 @@ public final class StagePromises {
         about();
         aboutBothEnds();
         norm();
-        System.out.println(wrong == 0 ? "promises 1 to 10 hold" : wrong + " answers are not as due");
-        if (wrong != 0) {
-            System.exit(1);
-        }
+        end("promises 1 to 10");
     }
 
     private static void newObject() {
