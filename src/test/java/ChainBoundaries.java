@@ -628,9 +628,11 @@ public final class ChainBoundaries extends Checks {
     private static void nearByTheWayOfThen() {
         for (int way = 0; way <= 1; way++) {
             for (int then = 2; then <= 3; then++) {
-                FirChain x = withPlan(1 << 13, 1, 13, 1);
+                // 15 sixteenths off: 30 by 32, which is more than 1 + 16, not than 1 + 2 times 16
+                FirChain x = withPlan(16, 1, 4, 15);
                 x.way(0, way, false);
-                due("P20 nearly 1 off", x.through(0, 8191), 0);
+                due("P20 nearly 1 off", x.through(0, 1), 0);
+                due("P20 twice 2^SHIFT more", x.near(0), 1);
                 x.way(0, then, false);
                 due("P20 by the WAY of then", x.near(0), 1);
                 x.reset();
@@ -822,10 +824,11 @@ public final class ChainBoundaries extends Checks {
         FirChain most = withBys(-4, -4);
         most.join(0);
         most.join(1);
-        for (int i = 0; i < 400; i++) {
+        // eight calls so far: the last question is the 512th call
+        for (int i = 0; i < 503; i++) {
             most.ramp(1, 1, 64);
         }
-        due("P22 very many", most.count(3), 400 * 1024 - 600);
+        due("P22 as many as can be", most.count(3), 503 * 1024 - 600);
     }
 
     /** P22 "BAD" */

@@ -24,6 +24,7 @@ public final class StageBoundaries extends Checks {
         planNoneIsSafe();
         planHasNoTap();
         planThatItHadStays();
+        planOfOneInTheChain();
         planAtShifts();
         planAtBad();
         planAtNotSafe();
@@ -414,6 +415,17 @@ public final class StageBoundaries extends Checks {
         due("P6 norm", x.norm(0), 14);
         due("P6 what came in", x.counted(0, 0), 1);
         due("P6 it goes on", x.through(0, 1), 43);
+    }
+
+    /** P6 "A STAGE gets the PLAN": by tap() and change() alone it goes from THE CHAIN */
+    private static void planOfOneInTheChain() {
+        FirChain x = busy();
+        due("P6 in THE CHAIN", x.plan(0, 8, 30), 6);
+        due("P6 its place stays", x.about(0, 8), 0);
+        due("P6 the other's place stays", x.about(1, 8), 1);
+        due("P7 in THE CHAIN", x.planAt(1, 8, 30, 5), 5);
+        due("P7 its place stays", x.about(1, 8), 1);
+        due("P7 both are in it", x.count(1), 2);
     }
 
     /** P7 "with a SHIFT told (0 .. 24)" */

@@ -37,6 +37,7 @@ public final class TermsBoundaries extends Checks {
         tapeLosesAPart();
         withNoStage();
         forgetsByAPlan();
+        thinsFromTheFirstOn();
         forgetsByReset();
         forgetsByNothingElse();
         badGoesAheadOfFull();
@@ -635,6 +636,23 @@ public final class TermsBoundaries extends Checks {
         two.planAt(0, 16, 50, 0);
         due("the other one does not forget", two.through(1, 1), 11);
         due("that one does", two.through(0, 1), 1);
+    }
+
+    /** "from the first on": of what came in ahead of the PLAN nothing is known any more */
+    private static void thinsFromTheFirstOn() {
+        for (int by = 2; by <= 4; by++) {
+            for (int sofar = 0; sofar <= by; sofar++) {
+                FirChain x = withPlan(1, by, 0, 1);
+                x.join(0);
+                for (int i = 0; i < sofar; i++) {
+                    x.put(1);
+                }
+                x.planAt(0, 16, 50, 1);
+                for (int i = 0; i <= by; i++) {
+                    due("BY " + by + ", a PLAN after " + sofar, x.put(1), i % by == 0 ? 1 : 0);
+                }
+            }
+        }
     }
 
     /** "and by reset()" */
