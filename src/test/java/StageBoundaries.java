@@ -343,7 +343,8 @@ public final class StageBoundaries extends Checks {
         }
         int[] wrongStage = {-1, 5, MIN, MAX};
         for (int number : wrongStage) {
-            refused("P5 way(" + number + ", 0, true)", StageBoundaries::busy, x -> x.way(number, 0, true), FirChain.BAD);
+            refused("P5 way(" + number + ", 0, true)", StageBoundaries::busy,
+                    x -> x.way(number, 0, true), FirChain.BAD);
         }
     }
 
