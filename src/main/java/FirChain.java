@@ -42,7 +42,7 @@ public final class FirChain {
         if (!within(below, 1, MOST_BELOW) || !isBy(by)) {
             return BAD;
         }
-        if (stageCount >= stages.length) {
+        if (!within(stageCount, 0, stages.length - 1)) {
             return FULL;
         }
         stages[stageCount] = new Stage(below, by);
@@ -156,7 +156,7 @@ public final class FirChain {
         }
         if (!found.plan.stands || placeOf(stage) != NONE
                 || filledByChain() * found.filling() > MOST_FILLED
-                || chainLength >= chain.length) {
+                || !within(chainLength, 0, chain.length - 1)) {
             return NO;
         }
         chain[chainLength] = stage;

@@ -24,6 +24,8 @@ public final class LanguageRules {
         "int reset()", "int through(int, int)", "long told(int, int)", "int near(int)",
         "long counted(int, int)", "int count(int)", "long digest()",
     };
+    private static final Set<String> CONSTANT_TYPES = Set.of("int", "long", "boolean", "char", "String",
+            "int[]", "long[]", "char[]", "byte[]");
     private static int wrong = 0;
 
     private static void check(boolean holds, String rule) {
@@ -93,6 +95,8 @@ public final class LanguageRules {
         for (Field field : type.getDeclaredFields()) {
             int modifiers = field.getModifiers();
             check(!Modifier.isStatic(modifiers) || Modifier.isFinal(modifiers), field + " is final");
+            check(!Modifier.isStatic(modifiers) || CONSTANT_TYPES.contains(field.getType().getSimpleName()),
+                    field + " is of a type that a constant may have");
             fields += Modifier.isStatic(modifiers) ? 0 : 1;
         }
         check(fields <= 20, type.getName() + " has at most twenty fields");
@@ -133,5 +137,38 @@ public final class LanguageRules {
         }
         Matcher libraries = Pattern.compile("\\b(java|javax|jdk|sun)\\.").matcher(code);
         check(!libraries.find(), "no library by its full name");
+        check(!Pattern.compile("\\bstatic\\s*\\{").matcher(code).find(), "no static initialiser block");
+        check(!Pattern.compile("while\\s*\\(\\s*true|for\\s*\\([^;]*;\\s*;").matcher(code).find(),
+                "every loop has an end");
+        methods(code);
+    }
+
+    /** Rules 11 and 12: methods stay short, and no call but stage() makes an object. */
+    private static void methods(String code) {
+        Matcher heads = Pattern.compile("(?m)^ +(?:[\\w\\[\\]]+ )*(\\w+)\\([^)]*\\) \\{$").matcher(code);
+        Set<String> seen = new HashSet<>();
+        while (heads.find()) {
+            String name = heads.group(1);
+            seen.add(name);
+            String body = code.substring(heads.start(), endOfBlock(code, heads.end()));
+            check(body.split("\n").length <= 60, name + " stays short");
+            boolean mayMake = name.equals("stage") || Character.isUpperCase(name.charAt(0));
+            check(mayMake || !Pattern.compile("\\bnew\\b").matcher(body).find(), name + " makes no object");
+        }
+        for (String signature : FACE) {
+            String name = signature.substring(signature.indexOf(' ') + 1, signature.indexOf('('));
+            check(seen.contains(name), name + " was found in the source");
+        }
+    }
+
+    private static int endOfBlock(String code, int from) {
+        int open = 1;
+        int at = from;
+        while (at < code.length() && open > 0) {
+            char c = code.charAt(at);
+            open += c == '{' ? 1 : c == '}' ? -1 : 0;
+            at++;
+        }
+        return at;
     }
 }
